@@ -675,22 +675,19 @@ public final class AtlasEnds {
             return library == null ? BEAR_WITHOUT : library.bear;
         }
 
-        private int sumOf(int person, int holds) {
-            if (library == null) {
-                return 0;
-            }
+        private int[] traitsOf(int person, int holds) {
             traits[LibraryReader.LETTER_P] = person;
             traits[LibraryReader.LETTER_K] = kind[person];
             traits[LibraryReader.LETTER_V] = v[person];
             traits[LibraryReader.LETTER_X] = place[person] / 10;
             traits[LibraryReader.LETTER_J] = holds;
             traits[LibraryReader.LETTER_S] = step % 10;
-            return library.sumFor(traits);
+            return traits;
         }
 
         int driftOf(int person) {
             int holds = holdsHowMany(person);
-            int sum = sumOf(person, holds);
+            int sum = library == null ? 0 : library.sumFor(traitsOf(person, holds));
             int ofReader = holds > 0 ? sum + v[person] : sum;
             switch (kind[person]) {
                 case READER: return ofReader;
@@ -810,7 +807,7 @@ public final class AtlasEnds {
         static final int LETTERS_COUNT = 6;
         /** In the order of LESS, SAME, MORE. */
         private static final String COMPARES = "<=>";
-        private static final String DIGITS = "0123456789";
+        private static final int DIGITS_MOST = 2;
 
         private final char[] text = new char[TEXT_MOST];
         int length;
@@ -867,12 +864,16 @@ public final class AtlasEnds {
 
         /** -1: none. */
         private int takesNumber() {
-            int ten = takesOneOf(DIGITS);
-            if (ten < 0) {
-                return -1;
+            int n = -1;
+            for (int digits = 0; digits < DIGITS_MOST && at < length && isDigit(text[at]); digits++) {
+                n = Math.max(n, 0) * 10 + text[at] - '0';
+                at++;
             }
-            int unit = takesOneOf(DIGITS);
-            return unit < 0 ? ten : ten * 10 + unit;
+            return n;
+        }
+
+        private static boolean isDigit(char sign) {
+            return sign >= '0' && sign <= '9';
         }
 
         private boolean takesClause() {

@@ -241,6 +241,10 @@ public final class LibraryTest {
         drift(0, "up 1 !!p=0", 1);
         drift(0, "up 1 !p=0|p=1", 0);
         drift(0, "up 1 p=1|p=2|p=0", 1);
+        drift(0, "up 1 p=0&p<9", 1);
+        drift(0, "up 1 p=0&!p>9", 1);
+        drift(0, "up 1 p=1|p<9", 1);
+        drift(0, "up 1 p<9|p=1", 1);
         drift(0, "up 1 p=0&v=0&x=1", 0);
         drift(0, "up 1 p=0&v=0&x=0", 1);
         drift(0, "up 1 (p=1|(p=2|(p=3|!p=1)))", 1);

@@ -79,10 +79,14 @@ public final class PeopleLeavesTest {
         AtlasEnds x = new AtlasEnds();
         x.image();
         x.one(6, 1, 1);
-        x.row(0, 2, 8);
+        for (int part = 0; part < 4; part++) {
+            x.row(0, part, 8);
+        }
         x.undo();
         due.is("one: again the first", x.one(6, 1, 1), 0);
-        due.is("one: its ROW is 0", x.row(0, 2, 3), 0);
+        for (int part = 0; part < 4; part++) {
+            due.is("one: its ROW is 0, " + part, x.row(0, part, 3), 0);
+        }
     }
 
     private static void promise3Of() {
@@ -230,6 +234,14 @@ public final class PeopleLeavesTest {
         x.hold(1, 0, 1);
         due.is("LASTS: 60", x.sheet(0, 3), 60);
         due.is("LASTS: beyond 60", x.sheet(1, 3), -5);
+        x.leaf(29);
+        x.hold(2, 0, 1);
+        due.is("LASTS: 59", x.sheet(2, 3), 59);
+        due.is("PARTNER: there is no other", x.sheet(2, 4), -5);
+        x.one(0, 0, 0);
+        due.is("PARTNER: for good is greater than 59", x.sheet(2, 4), 2);
+        due.is("PARTNER: for good is greater than 60", x.sheet(0, 4), 2);
+        due.is("PARTNER: nothing is greater than -5", x.sheet(1, 4), -5);
     }
 
     private static void promise5Partner() {

@@ -5,6 +5,7 @@ public final class SeenOddsTest {
     public static void main(String[] args) {
         promise18See();
         promise18SeenIsFromWhenItIsAsked();
+        promise18SeenOfTwoLeaves();
         promise19Can();
         promise20Odds();
         promise20OddsRefusals();
@@ -50,6 +51,20 @@ public final class SeenOddsTest {
         x.pass(1);
         due.is("LENGTHS behind a STEP", x.sheet(0, 6), 1);
         due.is("LENGTHS behind a STEP, how many", x.sheet(0, 5), 13);
+    }
+
+    private static void promise18SeenOfTwoLeaves() {
+        AtlasEnds x = Due.ones(0, 20);
+        x.leaf(30);
+        x.leaf(15);
+        x.hold(0, 0, 1);
+        x.hold(1, 0, 1);
+        x.see(1, 0, true);
+        due.is("SEEN of LEAF 1: LENGTHS of LEAF 0", x.sheet(0, 5), 40);
+        due.is("SEEN of LEAF 1: LENGTHS of LEAF 1", x.sheet(1, 5), 19);
+        x.see(0, 0, true);
+        due.is("SEEN of both: LENGTHS of LEAF 0", x.sheet(0, 5), 19);
+        due.is("SEEN of both: LENGTHS of LEAF 1", x.sheet(1, 5), 0);
     }
 
     private static void promise19Can() {

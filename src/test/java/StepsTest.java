@@ -11,6 +11,7 @@ public final class StepsTest {
         promise16Meets();
         promise17Change();
         promise17Spare();
+        promise17SpareOfAllFour();
         promise17Refusals();
         due.end();
     }
@@ -206,6 +207,20 @@ public final class StepsTest {
         due.is("SPARE: the least as bits", x.best(1, 1), 2);
         due.is("SPARE: held is as it was", x.told(4), 7);
         due.is("SPARE: DROPS are as they were", x.told(2), 2);
+    }
+
+    private static void promise17SpareOfAllFour() {
+        // Three draw 0 away from 2 by 1 each: then, and only then, LEAF 3 has a GAP of 7.
+        AtlasEnds x = Due.ones(50, 10, 90);
+        for (int leaf = 0; leaf < 3; leaf++) {
+            x.leaf(35);
+            x.hold(leaf, 0, 1);
+        }
+        x.leaf(36);
+        x.hold(3, 0, 2);
+        due.is("SPARE: all four", x.best(1, 1), 15);
+        x.free(1);
+        due.is("SPARE: three are too few", x.best(1, 1), -5);
     }
 
     private static void promise17Refusals() {

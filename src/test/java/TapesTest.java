@@ -27,10 +27,12 @@ public final class TapesTest {
         due.is("tape: a row of none", x.item(0, 0, 0), -13);
         due.is("tape(5, 3, 60)", x.tape(5, 3, 60), 1);
         due.is("tape: the last", x.item(5, 59, 8), 1);
+        due.is("tape: the first", x.item(5, 0, 7), 1);
         due.is("tape: refused, so it stays", x.tape(5, 3, 61), -2);
         due.is("tape: it stays", x.read(5, 59), 8);
         due.is("tape(5, 2, 60)", x.tape(5, 2, 60), 1);
         due.is("tape: all 0", x.read(5, 59), 0);
+        due.is("tape: all 0, the first", x.read(5, 0), 0);
         due.is("tape(5, -1, 99)", x.tape(5, -1, 99), 1);
         due.is("tape: nothing", x.read(5, 0), AtlasEnds.NO);
         due.is("tape(5, -1, -9)", x.tape(5, -1, -9), 1);
