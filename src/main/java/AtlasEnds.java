@@ -1145,10 +1145,12 @@ public final class AtlasEnds {
         private boolean isTrialAsSeen(Notes notes) {
             int last = notes.lastSeenStep();
             for (int steps = 0; steps <= last; steps++) {
+                if (steps > 0) {
+                    trial.goOne();
+                }
                 if (!notes.isSeenSo(trial, steps)) {
                     return false;
                 }
-                trial.goOne();
             }
             return true;
         }
