@@ -588,14 +588,11 @@ public final class AtlasEnds {
             return leaf >= 0 && leaf < leaves;
         }
 
+        /** The ROW is 0 already: become() takes over all rows, those of nobody yet too. */
         int addPerson(int itsKind, int itsV, int itsPlace) {
             kind[people] = itsKind;
             v[people] = itsV;
             place[people] = itsPlace;
-            // After an undo an older one's ROW may still stand here.
-            for (int part = 0; part < ROW_SIZE; part++) {
-                rows[people * ROW_SIZE + part] = 0;
-            }
             people++;
             return people - 1;
         }
