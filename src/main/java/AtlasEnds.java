@@ -774,7 +774,10 @@ public final class AtlasEnds {
             }
         }
 
-        /** Truths that wait to be joined are bits, the latest the lowest: nesting is low, so an int has room. */
+        /**
+         * Truths that wait to be joined are bits, the latest the lowest: nesting is low, so an int has room.
+         * Joining drops the latest, and may change the one below it alone (-2 has all bits but that one).
+         */
         int sumFor(int[] traits) {
             int sum = 0;
             int truths = 0;
