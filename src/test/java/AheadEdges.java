@@ -134,6 +134,47 @@ final class AheadEdges extends Edge {
         }
     }
 
+    @Of(part = "Terms 2", says = "ON n STEPS (0 .. 60)")
+    static void onTheSixtieth() {
+        // In the STEP from 59 to 60 the LEAF is let go.
+        Atlas a = oneGoesUpAt(9, 6);
+        is(1, a.on(59, 2));
+        is(0, a.on(59, 0));
+        is(0, a.on(60, 2));
+        is(1, a.on(60, 0));
+        // 30 apart behind 50 STEPS; 36 in the 60th, and drawn to 34.
+        Atlas b = Atlas.ones(0, 0);
+        b.library("up 6 p=1&s=9;bear 99");
+        b.leaf(33);
+        b.hold(0, 0, 1);
+        is(0, b.on(59, 1));
+        is(30, b.on(59, 11));
+        is(1, b.on(60, 1));
+        is(1, b.on(60, 10));
+        is(35, b.on(60, 11));
+    }
+
+    @Of(part = "Terms 2", says = "ON n STEPS (0 .. 60): PLACE of one")
+    static void onTheSixthOfEachKind() {
+        // Behind a STEP, and behind one more.
+        int[] first = {54, 59, 52, 54, 50, 53, 55};
+        int[] second = {58, 68, 54, 58, 59, 56, 55};
+        for (int kind = 0; kind <= 6; kind++) {
+            Atlas a = Atlas.ones(0, 0, 0, 0, 50);
+            a.one(kind, 5, 50);
+            for (int leaf = 0; leaf < 4; leaf++) {
+                a.leaf(40);
+            }
+            a.hold(3, 4, 5);
+            a.row(5, 0, 5);
+            a.library("up 4 p=5");
+            is(first[kind], a.on(1, 15));
+            is(second[kind], a.on(2, 15));
+            is(8, a.on(2, 2));
+            is(0, a.on(2, 1));
+        }
+    }
+
     // ---- LASTS
 
     /** One goes up by 1 at the STEPS that end in this digit, 10 times a hundred; BEAR is 0. */
@@ -274,6 +315,19 @@ final class AheadEdges extends Edge {
         is(3, b.sheet(0, 4));
     }
 
+    @Of(part = "Terms 2", says = "the one, none of its HOLDERS, by whom, were it its second HOLDER now instead")
+    static void partnerFromTheFirstToTheLast() {
+        for (int p = 0; p < 6; p++) {
+            Atlas a = new Atlas();
+            for (int other = 0; other < 6; other++) {
+                a.one(0, 0, other == p ? 50 : other == (p + 1) % 6 ? 55 : 99);
+            }
+            a.leaf(10);
+            a.hold(0, (p + 1) % 6, (p + 2) % 6);
+            is(p, a.sheet(0, 4));
+        }
+    }
+
     @Of(part = "Terms 2", says = "-5: none, or it is not held). CHANGE")
     static void partnerOfALeafThatIsNotHeld() {
         Atlas a = Atlas.ones(0, 50, 1);
@@ -309,6 +363,13 @@ final class AheadEdges extends Edge {
         for (int n : outside(1, 20)) {
             is(BAD, b.best(n, 0));
         }
+        // As it is, it is let go at once; if 1 and 2 change, in the 20th STEP.
+        Atlas c = Atlas.ones(0, 50, 10);
+        c.library("up 1 p=1;bear 0");
+        c.leaf(29);
+        c.hold(0, 0, 1);
+        is(12, c.best(19, 0));
+        is(NOT_ANY, c.best(20, 0));
     }
 
     @Of(part = "Terms 2", says = "the two (10 times the lesser and the greater number) who should change their PLACES now")
@@ -903,29 +964,196 @@ final class AheadEdges extends Edge {
         a.image();
         Atlas b = Halls.some();
         b.image();
-        spoil(a);
+        changeAll(a);
         a.undo();
         alike(a, b);
     }
 
-    /** Changes something of all that THE IMAGE is of. */
-    private static void spoil(Atlas a) {
-        a.walk(0, 99);
+    /** Changes all that THE IMAGE is of, and adds to it. */
+    private static void changeAll(Atlas a) {
+        for (int p = 0; p < 4; p++) {
+            a.walk(p, 99 - p);
+        }
         a.row(0, 2, 9);
         a.hold(0, 3, 2);
         a.free(1);
+        a.hold(2, 0, 3);
         a.leaf(5);
-        a.hold(3, 0, 3);
         a.one(1, 9, 0);
         a.pass(3);
+        a.hold(3, 0, 4);
         a.see(-1, 0, true);
-        a.see(0, 5, true);
+        a.see(2, 5, true);
+        a.see(2, 6, false);
+        a.see(2, 7, false);
         a.plan(-1, 0);
-        a.plan(0, 0);
-        a.plan(0, 0);
+        a.plan(1, 0);
+        a.plan(3, 2);
         a.plan(0, 0);
         a.book(-1, 0);
         a.book(0, 7);
+        a.book(3, 96);
+        a.book(0, 7);
+    }
+
+    @Of(part = "Terms 2", says = "PEOPLE with all that is theirs")
+    static void imageOfSixPeople() {
+        Atlas a = new Atlas();
+        for (int p = 0; p < 6; p++) {
+            a.one(6, p + 1, p + 10);
+            for (int part = 0; part < 4; part++) {
+                a.row(p, part, p + part);
+            }
+        }
+        a.image();
+        for (int p = 0; p < 6; p++) {
+            a.walk(p, 50);
+            for (int part = 0; part < 4; part++) {
+                a.row(p, part, 9);
+            }
+        }
+        is(6, a.undo());
+        for (int p = 0; p < 6; p++) {
+            is(6, a.of(p, 0));
+            is(p + 1, a.of(p, 1));
+            is(p + 10, a.of(p, 2));
+            for (int part = 0; part < 4; part++) {
+                is(p + part, a.row(p, part, 0));
+            }
+        }
+    }
+
+    @Of(part = "Terms 2", says = "LEAVES, DROPS, STEP")
+    static void imageOfFourLeaves() {
+        Atlas a = Atlas.ones(0, 1, 2, 3, 4, 99);
+        for (int leaf = 0; leaf < 4; leaf++) {
+            a.leaf(30 + leaf);
+        }
+        a.hold(0, 0, 5);
+        a.pass(1);
+        for (int leaf = 1; leaf < 4; leaf++) {
+            a.hold(leaf, leaf, leaf + 1);
+        }
+        a.image();
+        a.hold(0, 4, 5);
+        a.free(1);
+        a.hold(2, 5, 0);
+        a.hold(3, 0, 1);
+        a.pass(2);
+        is(3, a.told(2));
+        is(3, a.told(0));
+        is(6, a.undo());
+        is(1, a.told(2));
+        is(1, a.told(0));
+        is(14, a.told(4));
+        for (int leaf = 0; leaf < 4; leaf++) {
+            is(30 + leaf, a.sheet(leaf, 0));
+            is(leaf == 0 ? NOT_ANY : leaf, a.sheet(leaf, 1));
+            is(leaf == 0 ? NOT_ANY : leaf + 1, a.sheet(leaf, 2));
+        }
+    }
+
+    /** LEAVES of 0 and each of 1 to 4, who are 20 to 23 apart. */
+    private static Atlas fourHeld() {
+        Atlas a = Atlas.ones(0, 20, 21, 22, 23, 24);
+        for (int leaf = 0; leaf < 4; leaf++) {
+            a.leaf(30);
+            a.hold(leaf, 0, 1 + leaf);
+        }
+        return a;
+    }
+
+    @Of(part = "Terms 2", says = "SEEN, the PLAN, the BOOK")
+    static void imageOfSeen() {
+        int[][] orders = {{0, 1, 2, 3, 3}, {3, 3, 2, 1, 0}};
+        for (int[] order : orders) {
+            Atlas a = fourHeld();
+            for (int leaf : order) {
+                a.see(leaf, 0, false);
+            }
+            a.image();
+            a.see(-1, 0, true);
+            for (int leaf : order) {
+                a.see((leaf + 1) % 4, 12, true);
+            }
+            a.see(-1, 0, true);
+            a.undo();
+            is(5, a.count(3));
+            for (int leaf = 0; leaf < 4; leaf++) {
+                is(21 - leaf, a.sheet(leaf, 5));
+                is(20 + leaf, a.sheet(leaf, 6));
+            }
+        }
+    }
+
+    @Of(part = "Terms 2", says = "SEEN, the PLAN, the BOOK")
+    static void imageOfThePlan() {
+        // Ten STEPS; four STEPS and all six at PLACE 0; the same the other way round.
+        int[][] plans = {{-1, -1, -1, -1, -1, -1, -1, -1, -1, -1}, {-1, -1, -1, -1, 5, 4, 3, 2, 1, 0}, {0, 1, 2, 3, 4, 5, -1, -1, -1, -1}};
+        int[] ends = {170, 0, 24};
+        for (int k = 0; k < plans.length; k++) {
+            Atlas a = fourHeld();
+            a.library("up 1 p<9;bear 99");
+            for (int n : plans[k]) {
+                a.plan(n < 0 ? 0 : 3, n);
+            }
+            is(ends[k], a.ends(1));
+            a.image();
+            a.plan(-1, 0);
+            for (int i = 0; i < 10; i++) {
+                a.plan(2, i % 4);
+            }
+            a.plan(-1, 0);
+            a.undo();
+            is(10, a.count(4));
+            is(ends[k], a.ends(1));
+        }
+    }
+
+    @Of(part = "Terms 2", says = "SEEN, the PLAN, the BOOK")
+    static void imageOfTheBook() {
+        Atlas a = fourHeld();
+        for (int i = 0; i < 8; i++) {
+            a.book(i % 6, i % 6 == 0 ? 0 : 19 + i % 6);
+        }
+        is(NOT_ANY, a.looked());
+        a.image();
+        a.book(-1, 0);
+        for (int i = 0; i < 8; i++) {
+            a.book(5 - i % 6, 50);
+        }
+        a.book(-1, 0);
+        a.undo();
+        is(8, a.count(5));
+        is(NOT_ANY, a.looked());
+        a.walk(5, 50);
+        is(5, a.looked());
+        a.walk(5, 24);
+        a.walk(1, 50);
+        is(1, a.looked());
+    }
+
+    @Of(part = "Terms 2", says = "THE IMAGE: PEOPLE with all that is theirs, LEAVES, DROPS, STEP, SEEN, the PLAN, the BOOK, "
+        + "which LIBRARY holds.")
+    static void imageIsOfNothingElse() {
+        Atlas a = Atlas.ones(5);
+        a.image();
+        a.tapeOf(0, 0, 7, 8);
+        a.tapeOf(5, 4, 1);
+        a.act(0, 2, 3);
+        a.library("bear 1");
+        a.feedAll("bear");
+        a.undo();
+        is(8, a.read(0, 1));
+        is(1, a.read(5, 0));
+        is(3, a.count(7));
+        is(12, a.trace(0));
+        is(10, a.trace(2));
+        is(1, a.count(2));
+        is(4, a.count(6));
+        is(1, a.library(" 7"));
+        is(7, a.told(1));
+        is(1, a.undo());
     }
 
     @Of(part = "Terms 2", says = "which LIBRARY holds")

@@ -91,6 +91,31 @@ final class LibraryEdges extends Edge {
         is(0, a.library("bear 1"));
     }
 
+    @Of(part = "Promise 12", says = "THE TEXT, which is empty then (by a FAULT, too)")
+    static void libraryLeavesNothingOfAnOlderText() {
+        // Each text is the beginning of the one ahead of it: what stood behind it there is gone.
+        Atlas a = Atlas.ones(5);
+        String text = "up 1 !(p<12|v>3&k=0)";
+        is(0, a.library(text));
+        for (int n = text.length() - 1; n >= 0; n--) {
+            is(-10 - n, a.library(text.substring(0, n)));
+        }
+        is(-11, a.library("b"));
+        is(-18, a.library("bear 12;x"));
+        is(1, a.library("bear 1"));
+        is(1, a.told(1));
+    }
+
+    @Of(part = "Promise 12", says = "THE TEXT, which is empty then (by a FAULT, too)")
+    static void libraryHasNothingOfATextWithAFault() {
+        Atlas a = Atlas.ones(5);
+        is(-26, a.library("bear 9;up 5 p=0;!"));
+        is(0, a.library("up 2 p=0"));
+        is(6, a.told(1));
+        is(2, a.of(0, 4));
+        is(1, a.count(2));
+    }
+
     @Of(part = "Promise 12", says = "FULL: there are 6 (THE TEXT stays)")
     static void libraryMoreThanSix() {
         Atlas a = Atlas.ones(50);

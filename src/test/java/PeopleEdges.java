@@ -13,6 +13,28 @@ final class PeopleEdges extends Edge {
         is(0, a.image());
     }
 
+    @Of(part = "Promise 1", says = "No PEOPLE, no LEAVES, no LIBRARY.")
+    static void newBesideAFullOne() {
+        Atlas full = Halls.full();
+        full.image();
+        full.act(0, 2, 0);
+        full.tape(0, 0, 60);
+        full.pass(60);
+        Atlas a = new Atlas();
+        for (int what = 0; what <= 7; what++) {
+            is(0, a.count(what));
+        }
+        int[] told = {0, 6, 0, 0, 0};
+        for (int what = 0; what <= 4; what++) {
+            is(told[what], a.told(what));
+        }
+        is(NONE, a.trace(0));
+        is(NO, a.read(0, 0));
+        is(STATE, a.undo());
+        is(0, a.one(0, 0, 0));
+        is(6, full.count(0));
+    }
+
     @Of(part = "Promise 1", says = "no LEAVES")
     static void newHasNoLeaves() {
         Atlas a = new Atlas();
@@ -121,7 +143,7 @@ final class PeopleEdges extends Edge {
             is(BAD, a.one(6, 10, 50));
             is(BAD, a.one(6, 5, 100));
         });
-        changesNothing(Halls::full, a -> is(FULL, a.one(1, 5, 50)));
+        changesNothing(Halls::full, a -> is(FULL, a.one(2, 3, 55)));
     }
 
     // ---- 3: of
@@ -388,6 +410,23 @@ final class PeopleEdges extends Edge {
         is(1, a.hold(0, 4, 0));
         is(4, a.sheet(0, 1));
         is(0, a.sheet(0, 2));
+    }
+
+    @Of(part = "Promise 7", says = "A LEAF is held by two: 1 if it is TAUT then, else 0.")
+    static void holdOfALeafThatIsHeld() {
+        Atlas a = Atlas.ones(0, 10, 20, 30, 99, 98);
+        for (int leaf = 0; leaf < 4; leaf++) {
+            a.leaf(10);
+        }
+        is(0, a.hold(3, 4, 5));
+        is(1, a.hold(3, 5, 0));
+        is(5, a.sheet(3, 1));
+        is(0, a.sheet(3, 2));
+        is(0, a.of(4, 3));
+        is(1, a.of(5, 3));
+        is(0, a.told(2));
+        is(8, a.told(4));
+        is(88, a.gap(3));
     }
 
     @Of(part = "Promise 7", says = "NONE: leaf, person, other")

@@ -105,6 +105,30 @@ final class SeenEdges extends Edge {
         is(2, a.of(1, 1));
     }
 
+    @Of(part = "Promise 19", says = "CAN: what 0 how many, 1 the least; -5.")
+    static void canOfTheFirstAndTheLast() {
+        Atlas a = new Atlas();
+        for (int p = 0; p < 6; p++) {
+            a.one(1, 5, p * 10);
+        }
+        for (int leaf = 0; leaf < 4; leaf++) {
+            a.leaf(30);
+        }
+        a.hold(3, 5, 0);
+        a.see(3, 1, false);
+        // 0 goes up by 5, 5 by v: with any v GAP is above 6.
+        is(10, a.can(5, 0));
+        is(10, a.can(0, 0));
+        a.walk(5, 32);
+        a.see(-1, 0, true);
+        a.see(3, 1, true);
+        // GAP is v less 3, and 2 less behind the STEP.
+        is(4, a.can(5, 0));
+        is(6, a.can(5, 1));
+        is(0, a.can(1, 0));
+        is(NOT_ANY, a.can(1, 1));
+    }
+
     @Of(part = "Promise 19", says = "NONE")
     static void canNobodyOrNoWhat() {
         Atlas a = Halls.some();

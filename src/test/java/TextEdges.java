@@ -417,6 +417,30 @@ final class TextEdges extends Edge {
         fault(100, hundredTooShort());
     }
 
+    @Of(part = "Terms 1", says = "(the end of THE TEXT, if it ends too early)")
+    static void faultOfATextOfAHundredThatEndsTooEarly() {
+        String[] ends = {";", ";u", ";up", ";up ", ";up 1", ";up 12", ";up 1 ", ";up 1 p", ";up 1 p=", ";up 1 !", ";up 1 (",
+            ";d", ";down", ";down ", ";down 1", ";down 1 ", ";b", ";bea", ";bear", ";bear ", "&", "|", "&p", "&p>", "&!", "&(",
+            "&(p<1", "&(p<12", "&(p<1|", "&(p<1&", "&((((p<1)))", "|!!!!", "|((((" };
+        for (String end : ends) {
+            fault(100, hundredThatEndWith(end));
+        }
+        String[] whole = {"", ";bear 1", ";bear 12", ";up 1 p=1", ";down 12 p=12", "&(p<1)", "|!!!!p<12", "&((((p<1))))"};
+        for (String end : whole) {
+            reads(hundredThatEndWith(end));
+        }
+    }
+
+    private static String hundredThatEndWith(String end) {
+        String[] heads = {"up 1 p<9", "up 12 p<9", "up 12 p<12", "down 12 p<9"};
+        String head = heads[(100 - end.length()) % 4];
+        String text = head + "&p<9".repeat((100 - end.length() - head.length()) / 4) + end;
+        if (text.length() != 100) {
+            throw new IllegalStateException("not 100 signs: " + text);
+        }
+        return text;
+    }
+
     // ---- which holds, BEAR, SUM
 
     @Of(part = "Terms 1", says = "The newest LIBRARY holds (6 at most)")
