@@ -4,6 +4,7 @@ import java.nio.charset.StandardCharsets;
 import java.nio.file.Files;
 import java.nio.file.Path;
 import java.util.ArrayList;
+import java.util.Arrays;
 import java.util.LinkedHashMap;
 import java.util.List;
 import java.util.Map;
@@ -26,6 +27,10 @@ final class Document {
     /** Quotations that don't stand in the document, and sentences that name a boundary and aren't quoted. */
     static List<String> missing(List<Method> tests) throws IOException {
         List<String> missing = new ArrayList<>();
+        if (!Files.isReadable(FILE)) {
+            System.out.println("EdgesTest: " + FILE + " isn't there, so nothing tells whether the quotations stand in it");
+            return missing;
+        }
         Map<String, String> parts = parts();
         Map<String, boolean[]> quoted = new LinkedHashMap<>();
         parts.forEach((part, text) -> quoted.put(part, new boolean[text.length()]));
@@ -47,7 +52,7 @@ final class Document {
             return false;
         }
         for (; at >= 0; at = text.indexOf(says, at + 1)) {
-            java.util.Arrays.fill(quoted, at, at + says.length(), true);
+            Arrays.fill(quoted, at, at + says.length(), true);
         }
         return true;
     }
@@ -86,6 +91,7 @@ final class Document {
     }
 
     private static String plain(String text) {
-        return text.replaceAll("```\\w*", " ").replaceAll("`(int|long|AtlasEnds)\\b[^`]*`:", " ").replaceAll("\\s+", " ").strip();
+        String withoutCode = text.replaceAll("```\\w*", " ").replaceAll("`(int|long|AtlasEnds)\\b[^`]*`:", " ");
+        return withoutCode.replaceAll("\\s+", " ").strip();
     }
 }

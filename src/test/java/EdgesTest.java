@@ -13,8 +13,9 @@ import java.util.TreeMap;
  * document itself is looked at: each quotation stands there, and what no test quotes names no boundary.
  */
 public final class EdgesTest {
-    private static final List<Class<?>> ALL = List.of(PeopleEdges.class, LibraryEdges.class, TextEdges.class, HallEdges.class, AheadEdges.class,
-        StepsEdges.class, SeenEdges.class, HostEdges.class, TapesEdges.class);
+    private static final List<Class<?>> ALL = List.of(HallEdges.class, TextEdges.class, AheadEdges.class,
+        ByHandEdges.class, ImageEdges.class, PeopleEdges.class, LibraryEdges.class, StepsEdges.class, SeenEdges.class,
+        HostEdges.class, TapesEdges.class);
 
     private EdgesTest() {
     }

@@ -312,7 +312,8 @@ final class HallEdges extends Edge {
         is(0, a.told(4));
     }
 
-    @Of(part = "Terms 1", says = "first, by how all is ahead of it, PLACE of each is its DRIFT more (0 at least, 99 at most). Then")
+    @Of(part = "Terms 1",
+        says = "first, by how all is ahead of it, PLACE of each is its DRIFT more (0 at least, 99 at most). Then")
     static void stepDriftsAheadOfTheLeaves() {
         // Not TAUT ahead of the STEP, TAUT by the drift; and TAUT ahead of it, but not behind the drift.
         Atlas a = Atlas.ones(0, 10, 30, 41);

@@ -42,6 +42,15 @@ final class Halls {
         return a;
     }
 
+    /** The LEAF of 0, who stays, and 1, who goes up by 1, is let go in the 20th STEP, if they don't change. */
+    static Atlas twenty() {
+        Atlas a = Atlas.ones(0, 10);
+        a.library("up 1 p=1;bear 0");
+        a.leaf(29);
+        a.hold(0, 0, 1);
+        return a;
+    }
+
     /** Six PEOPLE, four LEAVES, six LIBRARIES, 100 signs, 5 rows of SEEN, 10 of the PLAN, 8 of the BOOK. */
     static Atlas full() {
         Atlas a = new Atlas();

@@ -3,7 +3,9 @@ final class HostEdges extends Edge {
 
     // ---- the face, an object's calls
 
-    @Of(part = "The public face", says = "public static final int NONE = -1, BAD = -2, STATE = -3, FULL = -4; public static final long NO = Long.MIN_VALUE;")
+    @Of(part = "The public face",
+        says = "public static final int NONE = -1, BAD = -2, STATE = -3, FULL = -4; public static final long "
+            + "NO = Long.MIN_VALUE;")
     static void constants() {
         is(-1, AtlasEnds.NONE);
         is(-2, AtlasEnds.BAD);
@@ -36,7 +38,8 @@ final class HostEdges extends Edge {
 
     // ---- Terms 3: answers
 
-    @Of(part = "Terms 3", says = "NOTHING (-11): nothing is there; CAST (-12): another sort or KIND; PLACE (-13): no such place; "
+    @Of(part = "Terms 3",
+        says = "NOTHING (-11): nothing is there; CAST (-12): another sort or KIND; PLACE (-13): no such place; "
         + "SIZE (-14): a size below 0.")
     static void hostsRefusals() {
         Atlas a = Atlas.ones(5);
@@ -53,7 +56,8 @@ final class HostEdges extends Edge {
         is(-14, a.tape(0, 0, -1));
     }
 
-    @Of(part = "Terms 3", says = "NONE (-1) no such number; BAD (-2) a number is not as told; STATE (-3) as told; FULL (-4)")
+    @Of(part = "Terms 3",
+        says = "NONE (-1) no such number; BAD (-2) a number is not as told; STATE (-3) as told; FULL (-4)")
     static void answers() {
         Atlas a = Atlas.ones(0, 0, 0, 0, 0, 0);
         is(-1, a.walk(6, 0));
@@ -172,7 +176,8 @@ final class HostEdges extends Edge {
         }
     }
 
-    @Of(part = "Terms 3", says = "-5: none, or there are no PEOPLE (wherever the place is, also if the TAPE holds nothing)")
+    @Of(part = "Terms 3",
+        says = "-5: none, or there are no PEOPLE (wherever the place is, also if the TAPE holds nothing)")
     static void judgedNobody() {
         Atlas a = new Atlas();
         a.tapeOf(1, 0, 1, 2);
@@ -484,7 +489,8 @@ final class HostEdges extends Edge {
 
     // ---- 32: count
 
-    @Of(part = "Promise 32", says = "How many: 0 PEOPLE, 1 LEAVES, 2 LIBRARIES, 3 SEEN, 4 of the PLAN, 5 of the BOOK, 6 bytes of THE TEXT, "
+    @Of(part = "Promise 32",
+        says = "How many: 0 PEOPLE, 1 LEAVES, 2 LIBRARIES, 3 SEEN, 4 of the PLAN, 5 of the BOOK, 6 bytes of THE TEXT, "
         + "7 bodies that ran in the latest act() (all, kept or not).")
     static void countWhat() {
         Atlas none = new Atlas();

@@ -68,7 +68,8 @@ final class LibraryEdges extends Edge {
 
     // ---- 12: library
 
-    @Of(part = "Promise 12", says = "THE TEXT, which is empty then (by a FAULT, too), is a LIBRARY, and holds: its number.")
+    @Of(part = "Promise 12",
+        says = "THE TEXT, which is empty then (by a FAULT, too), is a LIBRARY, and holds: its number.")
     static void libraryIsNumberedFromZero() {
         Atlas a = Atlas.ones(50);
         for (int library = 0; library < 6; library++) {
@@ -180,7 +181,8 @@ final class LibraryEdges extends Edge {
 
     // ---- 13: told
 
-    @Of(part = "Promise 13", says = "What 0 STEP, 1 BEAR, 2 DROPS, 3 which LEAVES are TAUT (bits), 4 which are held (bits).")
+    @Of(part = "Promise 13",
+        says = "What 0 STEP, 1 BEAR, 2 DROPS, 3 which LEAVES are TAUT (bits), 4 which are held (bits).")
     static void toldWhat() {
         Atlas a = Halls.some();
         a.leaf(1);

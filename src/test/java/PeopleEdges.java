@@ -568,7 +568,8 @@ final class PeopleEdges extends Edge {
 
     // ---- 10: row
 
-    @Of(part = "Promise 10", says = "The ROW of a TOLD one becomes n (0 .. 9) for STEPS modulo 4 being part: what it was.")
+    @Of(part = "Promise 10",
+        says = "The ROW of a TOLD one becomes n (0 .. 9) for STEPS modulo 4 being part: what it was.")
     static void rowTellsWhatItWas() {
         Atlas a = new Atlas();
         a.one(6, 0, 50);

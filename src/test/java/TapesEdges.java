@@ -323,7 +323,8 @@ final class TapesEdges extends Edge {
 
     @Of(part = "Promise 36", says = "n items of a TAPE from i on come to another one")
     static void shiftOfEachSort() {
-        long[][] items = {{-128, 127, 1}, {-32768, 32767, 1}, {LEAST, MOST, 1}, {Long.MIN_VALUE + 1, Long.MAX_VALUE, 1}, {1, 0, 1}};
+        long[][] items = {
+            {-128, 127, 1}, {-32768, 32767, 1}, {LEAST, MOST, 1}, {Long.MIN_VALUE + 1, Long.MAX_VALUE, 1}, {1, 0, 1}};
         for (int sort = 0; sort <= 4; sort++) {
             Atlas a = new Atlas();
             a.tapeOf(0, sort, items[sort]);
@@ -438,7 +439,8 @@ final class TapesEdges extends Edge {
         is(PLACE, a.shift(0, MOST, 1, 0, 0));
     }
 
-    @Of(part = "Promise 36", says = "NONE: tapes; NOTHING; CAST: of unlike sorts; PLACE: n, i or j is below 0, or beyond either's end")
+    @Of(part = "Promise 36",
+        says = "NONE: tapes; NOTHING; CAST: of unlike sorts; PLACE: n, i or j is below 0, or beyond either's end")
     static void shiftRefusesInOrder() {
         Atlas a = new Atlas();
         a.tape(0, 0, 3);
@@ -455,7 +457,8 @@ final class TapesEdges extends Edge {
         is(CAST, a.shift(1, 0, 0, 0, 4));
     }
 
-    @Of(part = "Promise 36", says = "NONE: tapes; NOTHING; CAST: of unlike sorts; PLACE: n, i or j is below 0, or beyond either's end")
+    @Of(part = "Promise 36",
+        says = "NONE: tapes; NOTHING; CAST: of unlike sorts; PLACE: n, i or j is below 0, or beyond either's end")
     static void shiftRefusedChangesNothing() {
         changesNothing(TapesEdges::alikeTapes, a -> {
             is(NONE, a.shift(0, 0, 6, 0, 2));
